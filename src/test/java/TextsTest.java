@@ -1,0 +1,159 @@
+/** Promises 30 to 32. */
+public final class TextsTest {
+  public static void main(String[] args) {
+    feed();
+    texts();
+    values();
+    faults();
+    manyDrinkers();
+    Dues.end();
+  }
+
+  private static void feed() {
+    TrustTin x = new TrustTin();
+    Dues.due(30, "n 0", x.feed(1, 0), Dues.BEYOND);
+    Dues.due(30, "n 5", x.feed(1, 5), Dues.BEYOND);
+    Dues.due(30, "n -1", x.feed(1, -1), Dues.BEYOND);
+    Dues.due(30, "po", x.feed('x' << 16 | 'p' << 8 | 'o', 2), 2);
+    Dues.due(30, "t34;", x.feed('t' << 24 | '3' << 16 | '4' << 8 | ';', 4), 6);
+    Dues.due(30, "pot", x.feed(255 << 24 | 'p' << 16 | 'o' << 8 | 't', 3), 9);
+    Dues.due(30, "9", x.feed('9', 1), 10);
+    Dues.due(30, "count", x.count(5), 10);
+    Dues.due(30, "the text", x.text(), 2);
+    Dues.due(30, "pot 9", x.count(3), 9);
+    for (int i = 1; i <= 29; i++) {
+      Dues.due(30, "feed", x.feed(-1, 4), 4 * i);
+    }
+    Dues.due(30, "119", x.feed(0, 3), 119);
+    Dues.due(30, "no room for two", x.feed(0, 2), Dues.FULL);
+    Dues.due(30, "n 5 with no room", x.feed(0, 5), Dues.BEYOND);
+    Dues.due(30, "nothing changed", x.count(5), 119);
+    Dues.due(30, "120", x.feed(0, 1), 120);
+    Dues.due(30, "full", x.feed(0, 1), Dues.FULL);
+    Dues.due(31, "wipe", x.wipe(), 120);
+    Dues.due(31, "wiped", x.count(5), 0);
+    Dues.due(31, "again", x.wipe(), 0);
+    Dues.feed(x, "price 7");
+    x.wipe();
+    Dues.due(31, "nothing is read", x.text(), -1);
+    Dues.due(31, "price", x.count(2), 5);
+  }
+
+  private static void texts() {
+    String[] kinds = {"each", "later", "forgets", "never", "if", "twice", "maker"};
+    TrustTin x = new TrustTin();
+    for (int kind = 0; kind < kinds.length; kind++) {
+      Dues.due(32, kinds[kind], Dues.read(x, kinds[kind] + " " + (kind + 1)), 1);
+      Dues.due(32, "the tape is empty", x.count(5), 0);
+      Dues.due(32, "kind", x.of(kind, 0), kind);
+      Dues.due(32, "cups", x.of(kind, 1), kind + 1);
+      Dues.due(32, "purse", x.of(kind, 2), 200);
+      Dues.due(32, "limit", x.of(kind, 3), 20);
+    }
+    String[] signs = {"none", "flowers", "eyes"};
+    for (int sign = 2; sign >= 0; sign--) {
+      Dues.due(32, signs[sign], Dues.read(x, "sign " + signs[sign]), 1);
+      Dues.due(32, "sign", x.count(4), sign);
+    }
+  }
+
+  private static void values() {
+    TrustTin x = new TrustTin();
+    String text = "each9purse0limit99;  later 1 limit 0 ;price 7;pot 3;pot 99 ; sign eyes;twice 007 purse 9999  ";
+    Dues.due(32, "items", Dues.read(x, text), 7);
+    int[][] wants = {{0, 9, 0, 99}, {1, 1, 200, 0}, {5, 7, 9999, 20}};
+    for (int d = 0; d < wants.length; d++) {
+      for (int what = 0; what < 4; what++) {
+        Dues.due(32, "of(" + d + ", " + what + ")", x.of(d, what), wants[d][what]);
+      }
+    }
+    Dues.due(32, "price", x.count(2), 7);
+    Dues.due(32, "pot", x.count(3), 99);
+    Dues.due(32, "left", x.now(2), 99);
+    Dues.due(32, "sign", x.count(4), 2);
+    Dues.due(32, "no findings", x.status(-1), 0);
+    x.days(1);
+    Dues.due(32, "a new one of a text", Dues.read(x, "each 1"), 1);
+    Dues.due(32, "has not drunk", x.of(3, 5), 0);
+    Dues.due(32, "the others have", x.of(2, 5), 7);
+    Dues.due(32, "day stays", x.now(0), 1);
+  }
+
+  private static void fault(String text, int fault) {
+    TrustTin x = Dues.with(0, 3);
+    x.days(1);
+    x.hold(4, 0);
+    Dues.due(32, "'" + text + "'", Dues.read(x, text), -1 - fault);
+    Dues.due(32, "the tape is empty", x.count(5), 0);
+    Dues.due(32, "no drinker came", x.count(0), 1);
+    Dues.due(32, "price", x.count(2), 5);
+    Dues.due(32, "pot", x.count(3), 12);
+    Dues.due(32, "left", x.now(2), 12);
+    Dues.due(32, "sign", x.count(4), 0);
+    Dues.due(32, "purse", x.of(0, 2), 185);
+    Dues.due(32, "no finding", x.status(-1), 0);
+  }
+
+  private static void faults() {
+    fault("", 0);
+    fault("   ", 3);
+    fault(";", 0);
+    fault("price 3;", 8);
+    fault("price 3;  ", 10);
+    fault("price 3;;pot 3", 8);
+    fault("price 3 pot 3", 8);
+    fault("price", 5);
+    fault("price  ", 7);
+    fault("price pot", 6);
+    fault("price 100", 6);
+    fault("pot 0", 4);
+    fault("pot 100", 4);
+    fault("pot 12345678901234567890", 4);
+    fault("sign 1", 5);
+    fault("sign sign", 5);
+    fault("sign;", 4);
+    fault("eyes", 0);
+    fault("purse 3", 0);
+    fault("limit 3", 0);
+    fault("7", 0);
+    fault("each", 4);
+    fault("each 0", 5);
+    fault("each 10", 5);
+    fault("each;", 4);
+    fault("each 3 purse", 12);
+    fault("each 3 purse 10000", 13);
+    fault("each 3 purse limit 3", 13);
+    fault("each 3 limit 100", 13);
+    fault("each 3 limit 4 purse 3", 15);
+    fault("each 3 purse 4 purse 3", 15);
+    fault("each 3 pot 4", 7);
+    fault("each 3 4", 7);
+    fault("Each 3", 0);
+    fault("eaches 3", 0);
+    fault("eac 3", 0);
+    fault("each\t3", 4);
+    fault("each 3,", 6);
+    fault("price 3;sign eyes;pot 3;later 4;each 3 " + (char) 233, 39);
+    fault("price 3;pot 3;sign eyes;each 2;x", 31);
+  }
+
+  private static void manyDrinkers() {
+    TrustTin x = new TrustTin();
+    Dues.due(32, "ten", Dues.read(x, "if1;if1;if1;if1;if1;if1;if1;if1;if1;if1"), 10);
+    Dues.due(32, "an 11th", Dues.read(x, "price 3;  each 1"), -11);
+    Dues.due(32, "an 11th whose cups are wrong, too", Dues.read(x, "each 0"), -1);
+    Dues.due(32, "price", x.count(2), 5);
+    Dues.due(32, "no drinker", Dues.read(x, "price 3"), 1);
+    x = Dues.with(0, 1, 0, 1, 0, 1, 0, 1, 0, 1, 0, 1, 0, 1, 0, 1, 0, 1);
+    Dues.due(32, "the 11th in a text", Dues.read(x, "each 1;each 2;each 3"), -8);
+    Dues.due(32, "none came", x.count(0), 9);
+    Dues.due(32, "the tenth", Dues.read(x, "maker 4"), 1);
+    Dues.due(32, "it came", x.of(9, 0), 6);
+    x = new TrustTin();
+    StringBuilder full = new StringBuilder("pot 9");
+    while (full.length() < 120) {
+      full.append(full.length() < 100 ? ";pot 8" : " ");
+    }
+    Dues.due(32, "120 bytes", Dues.read(x, full.toString()), 17);
+  }
+}
