@@ -118,6 +118,14 @@ public final class AheadTest {
     Dues.due(17, "0", x.rests(), 1);
     x = Dues.with(TWICE, 1);
     Dues.due(17, "none", x.rests(), 0);
+    x = Dues.with(TWICE, 1, EACH, 9);
+    x.change(1, 2, 999);
+    Dues.due(17, "110 isn't asked", x.rests(), 0);
+    Dues.due(17, "110", x.tips(110, 1), 110);
+    x = Dues.with(IF, 1, NEVER, 1);
+    x.seed(Dues.after(1, 10));
+    // 4, 6, 8, 8, 9: all of IF's five cups are paid, so that 50 holds itself.
+    Dues.due(17, "0 and 50", x.rests(), 1 | 1 << 5);
     x = Dues.with(LATER, 1, NEVER, 1);
     x.days(1);
     // A week from a Monday's begin, with the Monday's debt: six cups' price for ten.

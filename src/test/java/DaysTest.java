@@ -184,6 +184,12 @@ public final class DaysTest {
     x.change(0, 2, 9999);
     Dues.due(10, "all of it", x.days(5), 2475);
     Dues.due(10, "999 at most", x.now(3), 999);
+    x = new TrustTin();
+    x.room(0, 1);
+    x.days(4);
+    x.drinker(NEVER, 1);
+    x.days(1);
+    Dues.due(10, "last of a single coin that ought to come", x.now(3), 0);
     x = Dues.with(EACH, 2);
     x.days(4);
     x.room(0, 10);
@@ -228,6 +234,9 @@ public final class DaysTest {
     Dues.due(11, "20 weeks at most", x.count(1), 20);
     Dues.due(11, "the latest", x.week(0, 0), 10);
     Dues.due(11, "the second one", x.week(19, 1), 50);
+    x.days(5);
+    Dues.due(11, "the third one", x.week(19, 0), 5);
+    Dues.due(11, "the third one", x.week(19, 1), 50);
     Dues.due(11, "no 21st", x.week(20, 0), Dues.NONE);
     Dues.due(11, "none so far back", x.week(Integer.MAX_VALUE, 0), Dues.NONE);
     Dues.due(11, "i -1", x.week(-1, 0), Dues.BEYOND);
@@ -248,6 +257,11 @@ public final class DaysTest {
     Dues.due(12, "below, of two weeks", x.each(1), 3);
     Dues.due(12, "part -1", x.each(-1), Dues.BEYOND);
     Dues.due(12, "part 2", x.each(2), Dues.BEYOND);
+    x = Dues.with(EACH, 1);
+    x.change(0, 2, 1);
+    x.days(5);
+    Dues.due(12, "one by five: above", x.each(0), 1);
+    Dues.due(12, "one by five: below", x.each(1), 5);
     x = Dues.with(NEVER, 2);
     x.days(5);
     Dues.due(12, "nothing: above", x.each(0), 0);

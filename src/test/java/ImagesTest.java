@@ -71,6 +71,8 @@ public final class ImagesTest {
       x.change(0, what, 3);
     }
     x.drinker(0, 1);
+    x.drinker(1, 1);
+    x.days(1);
     x.hold(2, -1);
     x.hold(0, 6);
     x.empty();
@@ -89,8 +91,13 @@ public final class ImagesTest {
     Dues.due(41, "the tape stays", x.text(), 1);
     Dues.due(41, "it is read", x.count(3), 7);
     Dues.due(44, "undo takes none back", x.status(-1) >= findings ? 1 : 0, 1);
-    x.drinker(5, 9);
-    Dues.due(41, "a new one in a place that was held", x.of(6, 5), 0);
+    int[] first = {5, 9, 200, 20, 0, 0, 0};
+    for (int d = 6; d < 8; d++) {
+      x.drinker(5, 9);
+      for (int what = 0; what < 7; what++) {
+        Dues.due(2, "a new one in the place of one that is undone", x.of(d, what), first[what]);
+      }
+    }
     x.undo();
     Dues.due(41, "the image is its own", x.count(0), 6);
     Dues.due(41, "the image is its own", x.count(3), 3);

@@ -72,6 +72,13 @@ public final class TextsTest {
     Dues.due(32, "left", x.now(2), 99);
     Dues.due(32, "sign", x.count(4), 2);
     Dues.due(32, "no findings", x.status(-1), 0);
+    Dues.due(32, "the least", Dues.read(x, "price 0;pot 1"), 2);
+    Dues.due(32, "price 0", x.count(2), 0);
+    Dues.due(32, "pot 1", x.count(3), 1);
+    Dues.due(32, "the most", Dues.read(x, "price 99;pot 99"), 2);
+    Dues.due(32, "price 99", x.count(2), 99);
+    Dues.due(32, "pot 99", x.count(3), 99);
+    x.room(0, 7);
     x.days(1);
     Dues.due(32, "a new one of a text", Dues.read(x, "each 1"), 1);
     Dues.due(32, "has not drunk", x.of(3, 5), 0);
@@ -133,6 +140,15 @@ public final class TextsTest {
     fault("eac 3", 0);
     fault("each\t3", 4);
     fault("each 3,", 6);
+    fault("pot 3" + (char) 0, 5);
+    fault("pot" + (char) 0 + "3", 3);
+    fault("xot 3", 0);
+    fault("potz 3", 0);
+    fault("pota 3", 0);
+    fault("pot`3", 3);
+    fault("pot{3", 3);
+    fault("pot /3", 4);
+    fault("pot :3", 4);
     fault("price 3;sign eyes;pot 3;later 4;each 3 " + (char) 233, 39);
     fault("price 3;pot 3;sign eyes;each 2;x", 31);
   }
