@@ -41,6 +41,8 @@ public final class AheadTest {
     Dues.due(13, "with one who hasn't drunk", x.many(15), 4);
     Dues.due(14, "with one who hasn't drunk", x.who(15, 1), 15);
     Dues.due(13, "that one alone", x.many(0), 1);
+    Dues.due(14, "that one alone", x.who(0, 0), 8);
+    Dues.due(14, "that one alone", x.who(0, 1), 8);
     Dues.due(15, "that one alone", x.fewest(0), 8);
     x.room(0, 0);
     Dues.due(13, "no price", x.many(0), 15);
