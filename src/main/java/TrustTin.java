@@ -402,14 +402,14 @@ public final class TrustTin {
       return tell(NONE);
     }
     int levy = real.due() / payers;
-    int greatest = Integer.MIN_VALUE;
-    int least = Integer.MAX_VALUE;
+    int greatest = -1;
+    int least = -1;
     for (int d = 0; d < real.size; d++) {
       Drinker one = real.drinkers[d];
       if (one.drunk > 0) {
         int perCup = coinsByWay(one, way, levy) * 100 / one.drunk;
         greatest = Math.max(greatest, perCup);
-        least = Math.min(least, perCup);
+        least = least < 0 ? perCup : Math.min(least, perCup);
       }
     }
     return greatest - least;

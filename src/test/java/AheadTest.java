@@ -10,7 +10,9 @@ public final class AheadTest {
 
   public static void main(String[] args) {
     whoCan();
+    greatestSum();
     ahead();
+    aheadOfFriday();
     rests();
     tips();
     best();
@@ -61,6 +63,67 @@ public final class AheadTest {
     Dues.due(15, "ten", x.fewest(50), 1023);
     x.room(0, 99);
     Dues.due(13, "sums go by the price", x.many(990), 1);
+  }
+
+  /** Ten who drink 101 cups, each for 99. */
+  private static void greatestSum() {
+    TrustTin x = Dues.with(EACH, 9, EACH, 9, EACH, 9, EACH, 9, EACH, 9, EACH, 9, EACH, 9, EACH, 9, EACH, 9, EACH, 9);
+    x.room(0, 99);
+    x.room(1, 99);
+    for (int d = 0; d < 10; d++) {
+      x.change(d, 3, 99);
+    }
+    x.days(1);
+    for (int d = 0; d < 10; d++) {
+      x.change(d, 1, d == 4 ? 2 : 1);
+    }
+    x.days(1);
+    Dues.due(9, "due", x.now(4), 9999);
+    Dues.due(13, "9999, by all", x.many(9999), 1);
+    Dues.due(14, "9999, in all", x.who(9999, 0), 1023);
+    Dues.due(15, "9999, the fewest", x.fewest(9999), 1023);
+    Dues.due(13, "one of nine", x.many(990), 9);
+    Dues.due(14, "in all of nine", x.who(990, 0), 0);
+    Dues.due(14, "in any of nine", x.who(990, 1), 1023 - 16);
+    Dues.due(15, "the least of nine", x.fewest(990), 1);
+    Dues.due(13, "nine of nine, and not the other one", x.many(8910), 1);
+    Dues.due(14, "all but that one", x.who(8910, 0), 1023 - 16);
+    Dues.due(13, "all but one of nine", x.many(9009), 9);
+    Dues.due(14, "that one is in all", x.who(9009, 0), 16);
+    Dues.due(15, "of many the least", x.fewest(9009), 511);
+    Dues.due(13, "one less than a price", x.many(98), 0);
+    Dues.due(14, "nobody's", x.who(98, 1), Dues.NONE);
+    Dues.due(15, "nobody's", x.fewest(989), Dues.NONE);
+    x.days(3);
+    Dues.due(13, "a new week: all but the set of none", x.many(0), 1023);
+    Dues.due(14, "a new week, in all", x.who(0, 0), 0);
+    Dues.due(14, "a new week, in any", x.who(0, 1), 1023);
+    Dues.due(15, "a new week, the least", x.fewest(0), 1);
+  }
+
+  /**
+   * On each side of a Friday: one pays at once, one on Friday as far as 22 coins go, and the third one's cup
+   * takes a pot made anew. The rests 4, 2 of two days leave 15 coins and a debt of 10; then come 7, 1, 3.
+   */
+  private static void aheadOfFriday() {
+    // What ahead(n, ..) tells for n 0 to 3: TIN, DRUNK, DEBT, MISSED, what comes, LAST.
+    int[][] wants = {{15, 0, 10, 0, 0, 100}, {20, 2, 15, 1, 5, 100}, {30, 5, 20, 1, 15, 100}, {57, 7, 3, 2, 42, 95}};
+    for (int n = 0; n < wants.length; n++) {
+      TrustTin x = Dues.with(EACH, 1, LATER, 1, EACH, 1);
+      x.room(1, 2);
+      x.change(1, 2, 22);
+      x.days(2);
+      x.seed(3);
+      for (int what = 0; what < 6; what++) {
+        Dues.due(16, "ahead(" + n + ", " + what + ") of a Friday", x.ahead(n, what), wants[n][what]);
+      }
+      if (n > 0) {
+        Dues.due(16, "as the days then go", x.days(n), wants[n][4]);
+        Dues.due(16, "missed then", x.now(5), 1 + wants[n][3]);
+        Dues.due(16, "debt then", x.now(6), wants[n][2]);
+        Dues.due(16, "last then", x.now(3), wants[n][5]);
+      }
+    }
   }
 
   private static void ahead() {
@@ -151,6 +214,15 @@ public final class AheadTest {
     x = Dues.with(EACH, 8);
     Dues.due(18, "a purse of a week", x.tips(100, 1), 100);
     Dues.due(18, "purses go on", x.tips(100, 2), 0);
+    // A purse of n weeks at 25, but for 15 coins.
+    for (int n = 1; n <= 10; n++) {
+      x = Dues.with(EACH, 1);
+      x.change(0, 2, 25 * n - 15);
+      Dues.due(18, "the last one of " + n + " weeks", x.tips(100, n), 40);
+      if (n > 1) {
+        Dues.due(18, "the one ahead of the last", x.tips(100, n - 1), 100);
+      }
+    }
     Dues.due(18, "last -1", x.tips(-1, 1), Dues.BEYOND);
     Dues.due(18, "last 1000", x.tips(1000, 1), Dues.BEYOND);
     Dues.due(18, "n 0", x.tips(0, 0), Dues.BEYOND);
@@ -190,6 +262,29 @@ public final class AheadTest {
     Dues.due(20, "eyes alone do", x.sign(1), 2);
     Dues.due(20, "n 0", x.sign(0), Dues.BEYOND);
     Dues.due(20, "n 51", x.sign(51), Dues.BEYOND);
+    noSignIsBest();
+  }
+
+  /**
+   * A Friday and a day more, by the rests 2, 8, 0, 7, 1, 9. With flowers or eyes the one who forgets pays on
+   * Friday, LAST comes to 50 instead of 44, and the draw of IF, whose purse is empty, shifts the draw for a
+   * pot: 30 coins come, and without a sign 45.
+   */
+  private static void noSignIsBest() {
+    TrustTin x = Dues.with(FORGETS, 1, IF, 1, EACH, 4);
+    x.room(1, 3);
+    x.change(0, 2, 0);
+    x.change(1, 2, 0);
+    x.change(2, 2, 9999);
+    x.days(4);
+    x.change(0, 2, 5);
+    x.seed(29);
+    int[] came = {45, 30, 30};
+    for (int sign = 0; sign < 3; sign++) {
+      x.room(2, sign);
+      Dues.due(20, "what comes with sign " + sign, x.ahead(2, 4), came[sign]);
+      Dues.due(20, "none of the signs, from " + sign, x.sign(2), 0);
+    }
   }
 
   private static void potFor() {
@@ -207,6 +302,11 @@ public final class AheadTest {
     x.seed(1);
     Dues.due(21, "all cups", x.potFor(1), 5);
     Dues.due(21, "a maker", Dues.with(MAKER, 9).potFor(20), 1);
+    x = Dues.with(EACH, 9, EACH, 9, EACH, 9, EACH, 9, EACH, 9, EACH, 9, EACH, 9, EACH, 9, EACH, 9, EACH, 9);
+    Dues.due(21, "the most that can be needed", x.potFor(1), 90);
+    Dues.due(21, "nobody drinks", new TrustTin().potFor(20), 1);
+    x.room(0, 21);
+    Dues.due(21, "nobody drinks for so much", x.potFor(20), 1);
     Dues.due(21, "n 0", x.potFor(0), Dues.BEYOND);
     Dues.due(21, "n 21", x.potFor(21), Dues.BEYOND);
   }

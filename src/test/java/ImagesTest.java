@@ -2,6 +2,8 @@
 public final class ImagesTest {
   public static void main(String[] args) {
     images();
+    imageOfANewOne();
+    imageOfFullRows();
     all();
     count();
     status();
@@ -27,6 +29,74 @@ public final class ImagesTest {
     Dues.due(42, "nothing now", x.tear(), 0);
     Dues.due(42, "nothing is kept", x.undo(), Dues.NONE);
     Dues.due(42, "nothing changed", x.now(0), 8);
+  }
+
+  private static void imageOfANewOne() {
+    TrustTin x = new TrustTin();
+    Dues.due(40, "image of a new one", x.image(), 1);
+    Dues.due(32, "a text", Dues.read(x, "price 9;pot 8;sign eyes;later 9 purse 3 limit 9"), 4);
+    x.days(9);
+    x.hold(0, 0);
+    x.seed(7);
+    Dues.due(40, "image of another one", x.tear(), 1);
+    Dues.due(41, "torn", x.undo(), Dues.NONE);
+    Dues.due(41, "nothing changed", x.now(0), 9);
+    Dues.due(40, "image anew", x.image(), 1);
+    Dues.due(40, "twice", x.image(), 1);
+    x.drinker(0, 1);
+    Dues.due(41, "undo", x.undo(), 9);
+    Dues.due(41, "one", x.count(0), 1);
+    Dues.due(42, "something is kept once", x.tear(), 1);
+    Dues.due(42, "and no more", x.tear(), 0);
+    x = new TrustTin();
+    x.image();
+    Dues.read(x, "price 9;pot 8;sign eyes;later 9 purse 3 limit 9");
+    x.days(9);
+    x.hold(0, 0);
+    x.seed(7);
+    Dues.due(41, "to a new one", x.undo(), 0);
+    int[] counts = {0, 0, 5, 12, 0, 0, 1, 0};
+    for (int what = 0; what < counts.length; what++) {
+      Dues.due(41, "count(" + what + ") of a new one", x.count(what), counts[what]);
+    }
+    int[] nows = {0, 0, 12, 100, 0, 0, 0, 0, 0, 0};
+    for (int what = 0; what < nows.length; what++) {
+      Dues.due(41, "now(" + what + ") of a new one", x.now(what), nows[what]);
+    }
+    Dues.due(41, "the spot", x.as(0, 0), Dues.MISSING);
+    Dues.due(32, "a text in the place of what is undone", Dues.read(x, "each 2"), 1);
+    int[] first = {0, 2, 200, 20, 0, 0, 0};
+    for (int what = 0; what < first.length; what++) {
+      Dues.due(32, "of(0, " + what + ") of it", x.of(0, what), first[what]);
+    }
+  }
+
+  /** All that is held in rows, to the last place of each. */
+  private static void imageOfFullRows() {
+    TrustTin x = Dues.with(0, 1, 1, 1, 5, 1, 0, 1, 1, 1, 5, 1, 0, 1, 1, 1, 5, 1, 0, 1);
+    for (int d = 0; d < 10; d++) {
+      x.change(d, 2, 9999);
+      x.hold(d, d);
+    }
+    for (int week = 1; week <= 20; week++) {
+      x.room(0, week % 20 + 1);
+      x.change(9, 1, week % 9 + 1);
+      x.days(5);
+    }
+    x.days(2);
+    int[] before = all(x);
+    x.image();
+    for (int d = 0; d < 10; d++) {
+      x.change(d, 2, d);
+      x.change(d, 0, 3);
+      x.hold(d, 9 - d);
+    }
+    Dues.go(x, 150);
+    x.undo();
+    int[] after = all(x);
+    for (int i = 0; i < before.length; i++) {
+      Dues.due(41, "what was kept of full rows, " + i, after[i], before[i]);
+    }
   }
 
   private static int[] all(TrustTin x) {
@@ -80,7 +150,7 @@ public final class ImagesTest {
     x.sheet(0, 8, 7);
     x.sheet(1, 8, 7);
     Dues.feed(x, " 7");
-    int findings = x.status(-1);
+    int findings = x.status(5);
     Dues.due(41, "undo", x.undo(), 13);
     int[] after = all(x);
     for (int i = 0; i < before.length; i++) {
@@ -90,7 +160,9 @@ public final class ImagesTest {
     Dues.due(41, "sheets stay", x.write(1, 6, 1), 1);
     Dues.due(41, "the tape stays", x.text(), 1);
     Dues.due(41, "it is read", x.count(3), 7);
-    Dues.due(44, "undo takes none back", x.status(-1) >= findings ? 1 : 0, 1);
+    // The ten spots were asked, and two of them hold something.
+    Dues.due(44, "undo takes none back", x.status(-1), findings + 8);
+    Dues.due(44, "undo takes none back", x.status(5), findings + 8);
     int[] first = {5, 9, 200, 20, 0, 0, 0};
     for (int d = 6; d < 8; d++) {
       x.drinker(5, 9);

@@ -2,12 +2,17 @@
 public final class SheetsTest {
   public static void main(String[] args) {
     spots();
+    allSpots();
     kinds();
     sheet();
+    sheetSizes();
     write();
     copy();
+    copyAll();
     load();
+    loadEdges();
     judge();
+    judgeForty();
     Dues.end();
   }
 
@@ -29,6 +34,21 @@ public final class SheetsTest {
     Dues.due(34, "spot 10", x.as(10, 0), Dues.BEYOND);
     Dues.due(34, "kind -1", x.as(9, -1), Dues.BEYOND);
     Dues.due(34, "kind 7", x.as(9, 7), Dues.BEYOND);
+  }
+
+  private static void allSpots() {
+    TrustTin x = Dues.with(0, 1, 0, 1, 0, 1, 0, 1, 0, 1, 0, 1, 0, 1, 0, 1, 0, 1, 0, 1);
+    for (int spot = 0; spot < 10; spot++) {
+      Dues.due(33, "nothing where nothing was", x.hold(spot, -1), 1);
+      Dues.due(33, "hold", x.hold(spot, 9 - spot), 1);
+      Dues.due(43, "spots that hold", x.count(7), spot + 1);
+    }
+    for (int spot = 0; spot < 10; spot++) {
+      Dues.due(34, "as", x.as(spot, 0), 9 - spot);
+    }
+    Dues.due(33, "another one", x.hold(4, 0), 1);
+    Dues.due(34, "that one", x.as(4, 0), 0);
+    Dues.due(43, "ten", x.count(7), 10);
   }
 
   private static void kinds() {
@@ -203,5 +223,100 @@ public final class SheetsTest {
     Dues.due(39, "sheet -1", x.judge(-1), Dues.BEYOND);
     Dues.due(39, "sheet 4", x.judge(4), Dues.BEYOND);
     Dues.due(39, "missing", x.judge(1), Dues.MISSING);
+  }
+
+  private static void sheetSizes() {
+    for (int bits : new int[] {8, 16, 32}) {
+      for (int n : new int[] {0, 1, 39, 40}) {
+        TrustTin x = new TrustTin();
+        Dues.due(35, bits + " bits, n " + n, x.sheet(3, bits, n), n);
+        Dues.due(36, "the last one", x.write(3, n - 1, 1), n == 0 ? Dues.BEYOND : 1);
+        Dues.due(36, "the one behind it", x.write(3, n, 1), Dues.BEYOND);
+        Dues.due(37, "all of it, to itself", x.copy(3, 0, 3, 0, n), n);
+        Dues.due(37, "one more", x.copy(3, 0, 3, 0, n + 1), Dues.BEYOND);
+        Dues.due(35, "missing then", x.sheet(3, 0, n), 0);
+        Dues.due(36, "it is missing", x.write(3, 0, 1), Dues.MISSING);
+        Dues.due(37, "it is missing", x.copy(3, 0, 3, 0, 0), Dues.MISSING);
+        Dues.due(38, "it is missing", x.load(3), Dues.MISSING);
+        Dues.due(39, "it is missing", x.judge(3), Dues.MISSING);
+        Dues.due(35, "missing again", x.sheet(3, 0, 0), 0);
+        Dues.due(35, "anew", x.sheet(3, bits, n), n);
+        Dues.due(39, "all 0 anew", x.judge(3), 0);
+      }
+    }
+  }
+
+  private static void copyAll() {
+    TrustTin x = new TrustTin();
+    x.drinker(1, 1);
+    x.sheet(0, 8, 40);
+    x.sheet(1, 8, 40);
+    for (int i = 0; i < 40; i++) {
+      x.write(0, i, i);
+    }
+    Dues.due(37, "forty", x.copy(0, 0, 1, 0, 40), 40);
+    Dues.due(37, "the last one of forty", x.copy(0, 39, 1, 0, 1), 1);
+    Dues.due(37, "to the last one of forty", x.copy(0, 7, 1, 39, 1), 1);
+    x.load(1);
+    Dues.due(37, "39 came", x.of(0, 2), 39);
+    x.copy(1, 39, 1, 0, 1);
+    x.load(1);
+    Dues.due(37, "7 came", x.of(0, 2), 7);
+    x.copy(1, 38, 1, 0, 1);
+    x.load(1);
+    Dues.due(37, "38 stands", x.of(0, 2), 38);
+    // Far up and far down in one, so that a copy number by number would run over itself.
+    Dues.due(37, "up by one", x.copy(0, 0, 0, 1, 39), 39);
+    Dues.due(37, "down to the begin", x.copy(0, 39, 0, 0, 1), 1);
+    x.load(0);
+    Dues.due(37, "as they all were", x.of(0, 2), 38);
+    x.write(0, 0, 1);
+    Dues.due(37, "down by one", x.copy(0, 1, 0, 0, 39), 39);
+    Dues.due(37, "none at the end of both", x.copy(0, 40, 1, 40, 0), 0);
+  }
+
+  private static void loadEdges() {
+    int[] numbers = {0, 1, 9998, 9999, 10000, -1, Integer.MIN_VALUE, Integer.MAX_VALUE, 65536};
+    for (int v : numbers) {
+      TrustTin x = Dues.with(0, 1, 0, 1, 0, 1);
+      x.sheet(0, 32, 3);
+      x.write(0, 0, 5);
+      x.write(0, 1, v);
+      x.write(0, 2, 6);
+      boolean fits = v >= 0 && v <= 9999;
+      Dues.due(38, "5, " + v + ", 6", x.load(0), fits ? 3 : 1);
+      Dues.due(38, "ahead of " + v, x.of(0, 2), 5);
+      Dues.due(38, "purse of " + v, x.of(1, 2), fits ? v : 200);
+      Dues.due(38, "behind " + v, x.of(2, 2), fits ? 6 : 200);
+    }
+    TrustTin x = Dues.with(0, 1, 0, 1, 0, 1, 0, 1, 0, 1, 0, 1, 0, 1, 0, 1, 0, 1, 0, 1);
+    x.sheet(0, 8, 40);
+    Dues.due(38, "ten of forty", x.load(0), 10);
+    Dues.due(38, "nothing is left", x.now(7), 0);
+  }
+
+  private static void judgeForty() {
+    TrustTin x = Dues.with(0, 1);
+    x.change(0, 2, 9999);
+    x.sheet(2, 8, 40);
+    for (int i = 0; i < 40; i++) {
+      x.write(2, i, 5);
+    }
+    Dues.due(39, "forty days", x.judge(2), 0);
+    x.write(2, 39, 6);
+    Dues.due(39, "all but the fortieth", x.judge(2), 40);
+    x.write(2, 38, -5);
+    Dues.due(39, "the first of two", x.judge(2), 39);
+    x.write(2, 0, 5 + 256);
+    Dues.due(39, "5 of 8 bits", x.judge(2), 39);
+    x.write(2, 38, 5);
+    x.write(2, 39, 5);
+    Dues.go(x, 9959);
+    x.change(0, 2, 9999);
+    Dues.due(39, "9959 and 40", x.judge(2), 0);
+    x.days(1);
+    Dues.due(39, "9960 and 40", x.judge(2), Dues.STATE);
+    x.sheet(2, 8, 39);
+    Dues.due(39, "9960 and 39", x.judge(2), 1);
   }
 }

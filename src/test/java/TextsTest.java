@@ -4,6 +4,8 @@ public final class TextsTest {
     feed();
     texts();
     values();
+    allValues();
+    allBytes();
     faults();
     manyDrinkers();
     Dues.end();
@@ -151,6 +153,44 @@ public final class TextsTest {
     fault("pot :3", 4);
     fault("price 3;sign eyes;pot 3;later 4;each 3 " + (char) 233, 39);
     fault("price 3;pot 3;sign eyes;each 2;x", 31);
+    fault("price3pot", 6);
+    fault("pr ice 3", 0);
+    fault("pricepot 3", 0);
+    fault("price 1 2", 8);
+    fault("price 9 9", 8);
+    fault("price -1", 6);
+    fault("price 3 ; ", 10);
+    fault("pot 9999", 4);
+    fault("pot 10000", 4);
+    fault("pot 4294967297", 4);
+    fault("pot ;", 4);
+    fault("  pot  ", 7);
+    fault("each12", 4);
+    fault("each 99", 5);
+    fault("each 1 1", 7);
+    fault("each 1;;each 1", 7);
+    fault("each 1 purse", 12);
+    fault("each 1 purse ;", 13);
+    fault("each 1 purse 65536", 13);
+    fault("each 1 limit", 12);
+    fault("each 1 limit 9999", 13);
+    fault("each 1 limit 3 limit 4", 15);
+    fault("each 3purse9999limit100", 20);
+    fault("each 1 each 1", 7);
+    fault("each 1 sign eyes", 7);
+    fault("each purse 3 1", 5);
+    fault("sign", 4);
+    fault("sign  ", 6);
+    fault("sign none eyes", 10);
+    fault("sign eye", 5);
+    fault("sign eyess", 5);
+    fault("sign flower", 5);
+    fault("sign each", 5);
+    fault("signeyes", 0);
+    fault("none", 0);
+    fault("EACH 1", 0);
+    fault("each 1;Pot 3", 7);
+    fault("each 1;pot 3;9", 13);
   }
 
   private static void manyDrinkers() {
@@ -171,5 +211,65 @@ public final class TextsTest {
       full.append(full.length() < 100 ? ";pot 8" : " ");
     }
     Dues.due(32, "120 bytes", Dues.read(x, full.toString()), 17);
+    full.setCharAt(5, ';');
+    full.setCharAt(6, 'x');
+    Dues.due(32, "120 bytes with a fault", Dues.read(x, full.toString()), -7);
+    full.setLength(5);
+    full.append(';');
+    while (full.length() < 120) {
+      full.append(' ');
+    }
+    Dues.due(32, "120 bytes that end too early", Dues.read(x, full.toString()), -121);
+    full.setLength(114);
+    full.setCharAt(5, ' ');
+    full.append(";pot 7");
+    Dues.due(32, "the last of 120 bytes", Dues.read(x, full.toString()), 2);
+    Dues.due(32, "the last item", x.count(3), 7);
+    x = new TrustTin();
+    Dues.due(32, "twenty blanks, then 20 items", Dues.read(x, twentyItemsBehindBlanks()), 20);
+    Dues.due(32, "ten of them drinkers", x.count(0), 10);
+    Dues.due(32, "the last one", x.of(9, 1), 9);
+  }
+
+  private static String twentyItemsBehindBlanks() {
+    StringBuilder text = new StringBuilder("                    ");
+    for (int i = 0; i < 10; i++) {
+      text.append(i == 0 ? "pot" : ";pot").append(i + 1).append(";if").append(Math.max(i, 1));
+    }
+    return text.toString();
+  }
+
+  /** Each byte that begins no token, where an item could begin, and each that a blank could stand for. */
+  private static void allBytes() {
+    for (int b = 0; b < 256; b++) {
+      TrustTin x = new TrustTin();
+      Dues.feed(x, "pot");
+      x.feed(b, 1);
+      Dues.feed(x, "7");
+      boolean isDigit = b >= '0' && b <= '9';
+      boolean isLetter = b >= 'a' && b <= 'z';
+      int want = b == ' ' || isDigit ? 1 : isLetter ? -1 : -4;
+      Dues.due(32, "pot, byte " + b + ", 7", x.text(), want);
+      Dues.due(32, "pot behind byte " + b, x.count(3), b == ' ' ? 7 : isDigit ? 10 * (b - '0') + 7 : 12);
+    }
+  }
+
+  /** Each value that an item may tell, and the ones next to them. */
+  private static void allValues() {
+    String[] items = {"each ", "each 1 purse ", "each 1 limit ", "price ", "pot "};
+    int[] low = {1, 0, 0, 0, 1};
+    int[] high = {9, 9999, 99, 99, 99};
+    int[] places = {5, 13, 13, 6, 4};
+    for (int i = 0; i < items.length; i++) {
+      for (int v : new int[] {0, 1, 2, 8, 9, 10, 98, 99, 100, 9998, 9999, 10000, 10001, 99999}) {
+        TrustTin x = new TrustTin();
+        boolean fits = v >= low[i] && v <= high[i];
+        Dues.due(32, items[i] + v, Dues.read(x, items[i] + v), fits ? 1 : -1 - places[i]);
+        int[] first = {Dues.BEYOND, Dues.BEYOND, Dues.BEYOND, 5, 12};
+        int got = i < 3 ? x.of(0, i + 1) : x.count(i - 1);
+        Dues.due(32, items[i] + v + " told", got, fits ? v : first[i]);
+        Dues.due(32, items[i] + v + ": left", x.now(2), fits && i == 4 ? v : 12);
+      }
+    }
   }
 }

@@ -8,10 +8,14 @@ public final class WaysTest {
 
   public static void main(String[] args) {
     uneven();
+    unevenOfSeveral();
+    unevenOfTen();
     strokes();
+    strokesByRests();
     lacks();
     owes();
     odds();
+    oddsEdges();
     seed();
     Dues.end();
   }
@@ -36,6 +40,12 @@ public final class WaysTest {
     x = Dues.with(NEVER, 2);
     x.days(1);
     Dues.due(24, "one alone", x.uneven(0), 0);
+    x = Dues.with(NEVER, 1, EACH, 1);
+    x.days(1);
+    Dues.due(24, "the least is the first one's", x.uneven(0), 500);
+    x = Dues.with(EACH, 1, NEVER, 1);
+    x.days(1);
+    Dues.due(24, "the greatest is the first one's", x.uneven(0), 500);
   }
 
   private static void strokes() {
@@ -83,6 +93,14 @@ public final class WaysTest {
     x = Dues.with(TWICE, 2, TWICE, 1);
     x.days(1);
     Dues.due(27, "below 0", x.owes(), 1);
+    x = Dues.with(NEVER, 4, EACH, 5);
+    x.change(1, 2, 1);
+    x.days(1);
+    Dues.due(27, "24 is more than 20", x.owes(), 1);
+    x.room(0, 1);
+    Dues.due(27, "by the price of now: 4 and 4", x.owes(), 0);
+    x.days(4);
+    Dues.due(27, "nobody in a new week", x.owes(), 0);
   }
 
   /** One who forgets: weeks of 15, 20, 25 and 15 by the first twenty draws. */
@@ -115,5 +133,86 @@ public final class WaysTest {
     Dues.due(29, "what it was", x.seed(Integer.MIN_VALUE), -1000001);
     Dues.due(29, "any int", x.seed(0), Integer.MIN_VALUE);
     Dues.due(29, "no finding", x.status(-1), 0);
+  }
+
+  /** One, two and three cups, paid each, twice and never: 5, 20 and 0 coins of 30 that are due. */
+  private static void unevenOfSeveral() {
+    TrustTin x = Dues.with(EACH, 1, TWICE, 2, NEVER, 3, LATER, 9);
+    x.change(3, 3, 0);
+    x.days(1);
+    Dues.due(24, "1000 less 0", x.uneven(0), 1000);
+    Dues.due(24, "500 less 500", x.uneven(1), 0);
+    // 10 each: 1000, 500 and 333 by cups.
+    Dues.due(24, "1000 less 333", x.uneven(2), 667);
+    x.change(3, 3, 20);
+    x.change(3, 1, 1);
+    x.room(0, 3);
+    x.days(1);
+    // 8, 32, 0 and 0 coins; 2, 4, 6 and 1 cups at 3 are 39: 9 each.
+    Dues.due(24, "800 less 0", x.uneven(0), 800);
+    Dues.due(24, "a levy by the price of now", x.uneven(2), 900 - 150);
+    Dues.due(24, "way 3 then", x.uneven(3), Dues.BEYOND);
+    x.room(0, 0);
+    Dues.due(24, "strokes for nothing", x.uneven(1), 0);
+    Dues.due(24, "a levy of nothing", x.uneven(2), 0);
+    x.days(3);
+    Dues.due(24, "nobody has drunk in a new week", x.uneven(2), Dues.NONE);
+  }
+
+  private static void unevenOfTen() {
+    TrustTin x = Dues.with(EACH, 1, EACH, 1, EACH, 1, EACH, 1, EACH, 1, EACH, 1, EACH, 1, EACH, 1, EACH, 1, TWICE, 2);
+    x.days(1);
+    Dues.due(24, "1000 less 500", x.uneven(0), 500);
+    Dues.due(24, "strokes", x.uneven(1), 0);
+    // 55 by ten is 5: 500 for one cup, 250 for each of two.
+    Dues.due(24, "500 less 250", x.uneven(2), 250);
+    Dues.due(27, "the least of nine", x.owes(), 0);
+    x = Dues.with(EACH, 1);
+    x.days(1);
+    x.image();
+    x.drinker(TWICE, 3);
+    x.days(1);
+    Dues.due(24, "two", x.uneven(0), 500);
+    x.undo();
+    Dues.due(24, "one whose coming is undone doesn't count", x.uneven(0), 0);
+    Dues.due(24, "nor in a levy", x.uneven(2), 0);
+    Dues.due(26, "nor in what is lacking", x.lacks(), 0);
+    Dues.due(25, "nor for strokes", x.strokes(), 1);
+  }
+
+  private static void strokesByRests() {
+    for (int rest = 0; rest < 10; rest++) {
+      TrustTin x = Dues.with(EACH, 1);
+      x.days(1);
+      int z = Dues.seedWith(rest);
+      x.seed(z);
+      Dues.due(25, "a cup by " + rest, x.strokes(), rest == 0 ? 0 : rest == 1 ? 2 : 1);
+      Dues.due(25, "a draw", x.count(6), Dues.after(z, 1));
+      Dues.due(25, "drunk stays", x.now(8), 1);
+    }
+    TrustTin x = Dues.with(EACH, 1);
+    x.days(5);
+    Dues.due(25, "a new week", x.strokes(), 0);
+    Dues.due(25, "no draw", x.count(6), 1);
+  }
+
+  private static void oddsEdges() {
+    TrustTin x = Dues.with(EACH, 9, EACH, 9, EACH, 9, EACH, 9, EACH, 9, EACH, 9, EACH, 9, EACH, 9, EACH, 9, EACH, 9);
+    x.room(1, 99);
+    x.room(0, 40);
+    for (int d = 0; d < 10; d++) {
+      x.change(d, 3, 40);
+      x.change(d, 2, d < 9 ? 1000 : 998);
+    }
+    Dues.due(28, "9998, of 9998", x.odds(20, 9998), 20);
+    Dues.due(28, "9999, of 9998", x.odds(20, 9999), 0);
+    x.change(9, 2, 999);
+    Dues.due(28, "9999, of 9999", x.odds(20, 9999), 20);
+    x.change(9, 2, 1000);
+    Dues.due(28, "9999, of 10000", x.odds(1, 9999), 1);
+    Dues.due(28, "no draws, z stays", x.count(6), 1);
+    x = new TrustTin();
+    Dues.due(28, "0 of nobody", x.odds(20, 0), 20);
+    Dues.due(28, "1 of nobody", x.odds(20, 1), 0);
   }
 }
