@@ -10,6 +10,7 @@ import java.util.ArrayList;
 import java.util.Arrays;
 import java.util.List;
 import java.util.Random;
+import java.util.TreeMap;
 import java.util.TreeSet;
 import java.util.regex.Matcher;
 import java.util.regex.Pattern;
@@ -29,6 +30,8 @@ public final class LanguageTest {
   public static void main(String[] args) throws ReflectiveOperationException, IOException {
     face();
     source();
+    sizes();
+    depthOfCalls();
     nothingIsThrown();
     noObjectIsMade();
     Dues.end();
@@ -108,6 +111,60 @@ public final class LanguageTest {
         wrong("a long method at line " + (begin + 1));
       }
     }
+  }
+
+  private static void sizes() {
+    List<Class<?>> classes = new ArrayList<>(Arrays.asList(TrustTin.class.getDeclaredClasses()));
+    classes.add(TrustTin.class);
+    if (classes.size() > 12) {
+      wrong("so many classes: " + classes.size());
+    }
+    for (Class<?> c : classes) {
+      int fields = 0;
+      for (Field f : c.getDeclaredFields()) {
+        fields += Modifier.isStatic(f.getModifiers()) ? 0 : 1;
+      }
+      if (fields > 20) {
+        wrong("so many fields of " + c + ": " + fields);
+      }
+      for (Method m : c.getDeclaredMethods()) {
+        if (m.getParameterCount() > 7) {
+          wrong("so many parameters: " + m);
+        }
+      }
+    }
+  }
+
+  /** By their names alone, so that calls of one name count as one: never less deep than they are. */
+  private static void depthOfCalls() throws IOException {
+    String code = Files.readString(Path.of("src/main/java/TrustTin.java"));
+    Pattern method = Pattern.compile("(?ms)^( {2,4})(?:\\w+ )*(\\w+)\\([^)]*\\) \\{\\n(.*?)^\\1\\}");
+    TreeMap<String, TreeSet<String>> callsOf = new TreeMap<>();
+    Matcher m = method.matcher(code);
+    while (m.find()) {
+      TreeSet<String> called = callsOf.computeIfAbsent(m.group(2), name -> new TreeSet<>());
+      Matcher call = Pattern.compile("\\b(\\w+)\\(").matcher(m.group(3));
+      while (call.find()) {
+        called.add(call.group(1));
+      }
+    }
+    for (Method call : calls()) {
+      int depth = depth(callsOf, call.getName(), 0);
+      if (!callsOf.containsKey(call.getName()) || depth > 8) {
+        wrong("so deep are the calls of " + call.getName() + ": " + depth);
+      }
+    }
+  }
+
+  private static int depth(TreeMap<String, TreeSet<String>> callsOf, String name, int above) {
+    int deepest = above + 1;
+    // A call that comes to itself again would come here.
+    for (String called : above < 20 ? callsOf.get(name) : new TreeSet<String>()) {
+      if (callsOf.containsKey(called)) {
+        deepest = Math.max(deepest, depth(callsOf, called, above + 1));
+      }
+    }
+    return deepest;
   }
 
   private static List<Method> calls() {
